@@ -966,23 +966,23 @@ public final class PaidByPoorer {
         private int greatestUnder(int height) {
             int greatest = Integer.MIN_VALUE;
             for (int i = 0; i < people; i++) {
-                if (list[i] < height) {
-                    greatest = Math.max(greatest, list[i]);
+                if (list[i] < height && list[i] > greatest) {
+                    greatest = list[i];
                 }
             }
             return greatest;
         }
 
-        /** Who is BELOW who owes a DEBT, and neither owes nor gets it. */
-        int outsidersBelow(int debt) {
-            return belowBits(owes[debt]) & ~(1 << owes[debt] | 1 << gets[debt]);
+        /** Who neither owes a DEBT nor gets it. */
+        int outsiders(int debt) {
+            return everybody() & ~(1 << owes[debt] | 1 << gets[debt]);
         }
 
         int payers(int debt) {
             if (!isOpen(debt)) {
                 return 0;
             }
-            int bits = outsidersBelow(debt);
+            int bits = belowBits(owes[debt]) & outsiders(debt);
             for (int i = 0; i < people; i++) {
                 if (counted(i) < sums[debt]) {
                     bits &= ~(1 << i);
@@ -1877,7 +1877,8 @@ public final class PaidByPoorer {
             town.makeList();
             these = town.openDueBy(day);
             for (int i = 0; i < town.debts; i++) {
-                payers[i] = (these & 1 << i) != 0 ? town.outsidersBelow(i) : 0;
+                boolean isDue = (these & 1 << i) != 0;
+                payers[i] = isDue ? town.belowBits(town.owes[i]) & town.outsiders(i) : 0;
             }
         }
 
@@ -1958,26 +1959,22 @@ public final class PaidByPoorer {
             sums = 0;
             lapsed = 0;
             for (int i = 0; i < n; i++) {
-                passOne(town, rule);
-            }
-        }
-
-        private void passOne(Town town, Rule rule) {
-            town.countList();
-            int length = sortDue(town);
-            for (int i = 0; i < length; i++) {
-                int debt = order[i];
-                int person = rule.chosen(town, debt);
-                if (person >= 0) {
-                    prices += town.makePayment(person, debt);
-                    sums += town.sums[debt];
-                    payments++;
-                } else if (town.day >= town.dues[debt] + town.laws[LATE]) {
-                    town.stand[debt] = LAPSED;
-                    lapsed |= 1 << debt;
+                town.countList();
+                int length = sortDue(town);
+                for (int k = 0; k < length; k++) {
+                    int debt = order[k];
+                    int person = rule.chosen(town, debt);
+                    if (person >= 0) {
+                        prices += town.makePayment(person, debt);
+                        sums += town.sums[debt];
+                        payments++;
+                    } else if (town.day >= town.dues[debt] + town.laws[LATE]) {
+                        town.stand[debt] = LAPSED;
+                        lapsed |= 1 << debt;
+                    }
                 }
+                town.day++;
             }
-            town.day++;
         }
 
         /** Puts OPEN DEBTS that are DUE into their order: how many. */
