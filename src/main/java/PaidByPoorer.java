@@ -453,7 +453,7 @@ public final class PaidByPoorer {
         }
         long ways = states.fullWays();
         if (ways > 0) {
-            told.tell(now.everybody() & ~states.fullUsers());
+            told.tell(now.everybody() & ~states.allPayers());
         }
         return ways;
     }
@@ -478,7 +478,7 @@ public final class PaidByPoorer {
         if (!visit(day)) {
             return AMISS;
         }
-        int set = states.leastUsers();
+        int set = states.fewestPayers();
         if (set < 0) {
             return NOT;
         }
@@ -1595,19 +1595,13 @@ public final class PaidByPoorer {
         /** Six can pay a DEBT at most, so that a PAYMENT takes six bits, and ten of them a long. */
         private static final int MOST_RANKS = MOST_PEOPLE - 2;
         private static final int STEP_BITS = 6;
-        /** Of 64 sets of six: those that have the one of a number. */
-        private static final long[] WITH = {
-            0xAAAAAAAAAAAAAAAAL, 0xCCCCCCCCCCCCCCCCL, 0xF0F0F0F0F0F0F0F0L,
-            0xFF00FF00FF00FF00L, 0xFFFF0000FFFF0000L, 0xFFFFFFFF00000000L};
 
         private final Town town;
         private final long[] low;
         private final long[] high;
         private final long[] ways;
         private final long[] rows;
-        private final long[] sets;
         private final int[] paid;
-        private final int[] users;
         private final int[] prices;
         private final int[] places;
         private final int[] before;
@@ -1624,9 +1618,7 @@ public final class PaidByPoorer {
             high = new long[LIMIT];
             ways = new long[LIMIT];
             rows = new long[LIMIT];
-            sets = new long[4 * LIMIT];
             paid = new int[LIMIT];
-            users = new int[LIMIT];
             prices = new int[LIMIT];
             places = new int[PLACES];
             before = new int[MOST_DEBTS];
@@ -1666,7 +1658,6 @@ public final class PaidByPoorer {
             int first = find(0, lows, highs);
             ways[first] = 1;
             prices[first] = 0;
-            sets[0] = 1;
         }
 
         /** So much coin of one, where it stands in the low (0) or the high (1) half of all COIN. */
@@ -1674,10 +1665,14 @@ public final class PaidByPoorer {
             return person >> 2 == half ? (long) coin << LANE * (person & 3) : 0;
         }
 
+        private int coinIn(int state, int person) {
+            long half = person < 4 ? low[state] : high[state];
+            return (int) (half >>> LANE * (person & 3)) & 0xFFFF;
+        }
+
         private void load(int state) {
             for (int i = 0; i < town.people; i++) {
-                long half = i < 4 ? low[state] : high[state];
-                town.coin[i] = (int) (half >>> LANE * (i & 3)) & 0xFFFF;
+                town.coin[i] = coinIn(state, i);
             }
         }
 
@@ -1709,32 +1704,18 @@ public final class PaidByPoorer {
                 return;
             }
             ways[next] += ways[state];
-            users[next] |= users[state] | 1 << person;
             int price = prices[state] + town.price(person, debt);
             long row = rows[state] << STEP_BITS | debt * MOST_RANKS + rank(person, debt);
             if (price < prices[next] || price == prices[next] && row < rows[next]) {
                 prices[next] = price;
                 rows[next] = row;
             }
-            addSets(4 * state, 4 * next, person);
         }
 
     
 
         private int rank(int person, int debt) {
             return person - (town.owes[debt] < person ? 1 : 0) - (town.gets[debt] < person ? 1 : 0);
-        }
-
-        private void addSets(int from, int to, int person) {
-            for (int i = 0; i < 4; i++) {
-                long some = sets[from + i];
-                if (person < STEP_BITS) {
-                    long with = WITH[person];
-                    sets[to + i] |= some & with | (some & ~with) << (1 << person);
-                } else {
-                    sets[to + (i | 1 << person - STEP_BITS)] |= some;
-                }
-            }
         }
 
         /** The number of a state, a new one perhaps; NONE: there would be too many. */
@@ -1765,12 +1746,8 @@ public final class PaidByPoorer {
             low[state] = lows;
             high[state] = highs;
             ways[state] = 0;
-            users[state] = 0;
             prices[state] = Integer.MAX_VALUE;
             rows[state] = 0;
-            for (int i = 0; i < 4; i++) {
-                sets[4 * state + i] = 0;
-            }
             return state;
         }
 
@@ -1830,33 +1807,50 @@ public final class PaidByPoorer {
             return sum;
         }
 
-        int fullUsers() {
+        /** PEOPLE (bits) who pay in some row to a state with all PAID. */
+        int allPayers() {
             int bits = 0;
             for (int i = 0; i < size; i++) {
-                bits |= paid[i] == these ? users[i] : 0;
+                bits |= paid[i] == these ? payersTo(i) : 0;
             }
             return bits;
         }
 
         /** The fewest PEOPLE, by the least number, who pay in a row to a state with all PAID; NONE: none has all. */
-        int leastUsers() {
+        int fewestPayers() {
             int best = NONE;
-            for (int set = 0; set < 1 << MOST_PEOPLE; set++) {
-                boolean isLess = best < 0 || Integer.bitCount(set) < Integer.bitCount(best);
-                if (isLess && isEnough(set)) {
-                    best = set;
+            for (int i = 0; i < size; i++) {
+                if (paid[i] == these && isFewer(payersTo(i), best)) {
+                    best = payersTo(i);
                 }
             }
             return best;
         }
 
-        private boolean isEnough(int set) {
-            for (int i = 0; i < size; i++) {
-                if (paid[i] == these && (sets[4 * i + (set >> 6)] >>> (set & 63) & 1) == 1) {
-                    return true;
+        private static boolean isFewer(int set, int other) {
+            int more = Integer.bitCount(set) - Integer.bitCount(other);
+            return other < 0 || more < 0 || more == 0 && set < other;
+        }
+
+        /** Who pays in any row to a state: who has less there than it had and has got. */
+        private int payersTo(int state) {
+            int bits = 0;
+            for (int i = 0; i < town.people; i++) {
+                if (coinIn(state, i) < town.coin[i] + got(paid[state], i)) {
+                    bits |= 1 << i;
                 }
             }
-            return false;
+            return bits;
+        }
+
+        private int got(int mask, int person) {
+            int sum = 0;
+            for (int i = 0; i < town.debts; i++) {
+                if ((mask & 1 << i) != 0 && town.gets[i] == person) {
+                    sum += town.sums[i];
+                }
+            }
+            return sum;
         }
     }
 

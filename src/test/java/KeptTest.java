@@ -7,6 +7,8 @@ public final class KeptTest {
         test.today();
         test.seed();
         test.keepAndAgain();
+        test.lentAgain();
+        test.favoursAgain();
         test.refused();
         test.count();
         test.row();
@@ -76,6 +78,47 @@ public final class KeptTest {
         c.due("R again", c.x.seed(0), 99);
         c.due("a second time", c.x.again(0), true);
         c.due("given back", c.x.back(), 0);
+    }
+
+    private void lentAgain() {
+        c.fresh("10,0;60,0;25,0");
+        for (int i = 1; i <= 6; i++) {
+            c.x.lend(1, 2 * (i % 2), i);
+        }
+        c.x.keep(1);
+        for (int i = 5; i >= 0; i--) {
+            c.due("back", c.x.back(), i);
+        }
+        c.x.lend(0, 1, 1);
+        c.due("again", c.x.again(1), true);
+        c.due("six", c.x.count(4), 6);
+        for (int i = 5; i >= 0; i--) {
+            c.due("back", c.x.back(), i);
+            c.due("the last one's COIN first", c.x.of(1, 0), 60 - i * (i + 1) / 2);
+        }
+        c.due("as it was", c.x.of(0, 0) * 100 + c.x.of(2, 0), 1025);
+    }
+
+    private void favoursAgain() {
+        c.fresh("1,0;2,0;3,0;4,0;5,0;6,0;7,0;90,0;d7>0*6@0;d6>0*5@0;d7>0*2@0");
+        c.x.pay(6, 0);
+        c.x.give(7, 6, 9);
+        c.x.pay(5, 1);
+        c.x.keep(0);
+        c.x.keep(1);
+        c.x.pay(6, 2);
+        c.x.give(6, 7, 3);
+        c.due("again", c.x.again(0), true);
+        c.due("7 owes 6", c.x.favour(7, 6), 6);
+        c.due("6 owes 5", c.x.favour(6, 5), 5);
+        c.due("OPEN", c.x.count(2), 4);
+        c.due("paid by", c.x.debt(0, 5) * 10 + c.x.debt(1, 5), 65);
+        c.due("paid by none", c.x.debt(2, 5), -1);
+        c.due("COIN", c.x.of(7, 0) * 100 + c.x.of(6, 0), 8110);
+        c.x.keep(0);
+        c.x.give(7, 6, 1);
+        c.due("the other one is its own", c.x.again(1), true);
+        c.due("COIN", c.x.of(7, 0), 81);
     }
 
     private void refused() {

@@ -21,6 +21,7 @@ public final class PaymentsTest {
         test.judge();
         test.favour();
         test.nets();
+        test.netsOfTheLast();
         test.give();
         test.lend();
         test.back();
@@ -362,6 +363,20 @@ public final class PaymentsTest {
         c.due("0 owes 1", c.x.favour(0, 1), 10);
         c.due("1 owes 2", c.x.favour(1, 2), 7);
         c.due("0 and 2", c.x.favour(0, 2) + c.x.favour(2, 0), 0);
+    }
+
+    private void netsOfTheLast() {
+        c.fresh("0,0;40,0;20,0;50,0;d1>0*7@0;d2>0*4@0;d3>1*9@0;d1>3*2@0;d1>2*2@0");
+        c.due("2 for 1", c.x.pay(2, 0), 7);
+        c.x.sheet(2, 4, 0, 10);
+        c.due("1 for 2", c.x.pay(1, 1), 4);
+        c.due("2 for 3", c.x.pay(2, 2), 9);
+        c.x.sheet(2, 4, 70, -20);
+        c.due("3 for 1", c.x.pay(3, 4), 2);
+        c.due("1 and 2 alone", c.x.nets(), 8);
+        c.due("1 owes 2", c.x.favour(1, 2) * 10 + c.x.favour(2, 1), 30);
+        c.due("3 owes 2", c.x.favour(3, 2) * 10 + c.x.favour(2, 3), 90);
+        c.due("1 owes 3", c.x.favour(1, 3) * 10 + c.x.favour(3, 1), 20);
     }
 
     private void give() {

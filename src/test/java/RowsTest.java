@@ -15,6 +15,8 @@ public final class RowsTest {
         test.mostOfSums();
         test.all();
         test.allOfEqual();
+        test.allOfCutPrices();
+        test.allByOrder();
         test.never();
         test.ways();
         test.ahead();
@@ -22,6 +24,7 @@ public final class RowsTest {
         test.fewestOfMany();
         test.sorts();
         test.threeThousand();
+        test.otherwiseThanBefore();
         test.refused();
         test.c.finish();
     }
@@ -139,6 +142,71 @@ public final class RowsTest {
         c.fresh("20,0;30,0;0,0;50,0;d0>3*10@0;d3>2*15@0");
         c.due("25", c.x.all(0), 25);
         c.row("the other one first", 11, 1);
+    }
+
+    private void allOfCutPrices() {
+        // to one and the same state: half of 1 is cut to 0, half of 2 is 1
+        c.fresh("99,0;50,0;50,50;0,0;d0>3*1@0;d0>3*1@0;d0>3*2@0");
+        c.x.hide(1, 48);
+        c.x.hide(2, 48);
+        c.due("2 pays 1 and 1", c.x.all(0), 4);
+        c.row("2 pays 1 and 1", 2, 12, 21);
+        c.due("six orders of two", c.x.ways(0), 12);
+    }
+
+    private void allByOrder() {
+        // the cheaper row begins with the greater number
+        c.fresh("99,0;50,99;50,0;0,0;d0>3*10@0;d0>3*20@0");
+        c.due("by 2", c.x.all(0), 30);
+        c.row("by 2", 2, 12);
+        c.fresh("9,0;99,0;5,9;5,0;5,9;5,0;5,9;5,0;d1>0*5@0;d7>0*5@0;d1>7*5@0");
+        c.due("not the second ahead of the third", c.x.all(0), 15);
+        c.row("7 must have more than who pays for it; 0 pays with what it got", 2, 20, 13);
+    }
+
+    private void otherwiseThanBefore() {
+        c.fresh("99,0;0,0;50,0;d0>1*40@0;d0>1*30@1");
+        c.due("by 2", c.x.most(0), 1);
+        c.due("another day", c.x.most(1), 1);
+        c.row("three states", 40, 3);
+        c.due("the first day", c.x.ways(0), 1);
+        c.town("60,0");
+        c.due("one more", c.x.ways(0), 2);
+        c.town("d0>1*20@0");
+        c.due("one more", c.x.ways(0), 6);
+        c.x.hide(2, 1);
+        c.due("COUNTED 49", c.x.ways(0), 6);
+        c.x.give(2, 1, 30);
+        c.due("19 of 2", c.x.ways(0), 2);
+        c.x.give(3, 0, 1);
+        c.due("59 of 3", c.x.ways(0), 0);
+        c.x.give(0, 3, 1);
+        c.x.pay(3, 2);
+        c.due("PAID", c.x.ways(0), 1);
+        c.x.undo();
+        c.due("OPEN", c.x.ways(0), 2);
+        c.x.law(0, 3);
+        c.x.law(1, 39);
+        c.due("by 39", c.x.ways(0), 2);
+        c.x.law(1, 40);
+        c.due("by 40: the 40 first, or the 20", c.x.ways(0), 0);
+        c.x.law(1, 1);
+        c.due("by 1", c.x.ways(0), 2);
+        c.x.law(2, 1);
+        c.due("at noon", c.x.ways(0), 2);
+        c.x.give(0, 3, 50);
+        c.x.sheet(2, 4, 49, 37);
+        c.due("at noon, as it came", c.x.ways(0), 8);
+        c.x.noon();
+        c.due("0 has least", c.x.ways(0), 0);
+        c.x.law(2, 0);
+        c.due("0 has least", c.x.ways(0), 0);
+        c.x.law(0, 2);
+        c.due("who has more", c.x.ways(0), 8);
+        c.x.hide(0, 49);
+        c.due("who has more", c.x.ways(0), 8);
+        c.x.days(1);
+        c.due("PAID", c.x.ways(0), 1);
     }
 
     private void never() {
