@@ -188,6 +188,10 @@ public final class DaysTest {
         c.due("than if nothing was HIDDEN", c.x.pays(1, 15, 1), 10);
         c.due("nothing HIDDEN", c.x.pays(1, 0, 1), 0);
         c.due("it stays HIDDEN", c.x.of(1, 3) + c.x.today(), 15);
+        c.fresh("50,0;50,50;0,0;d0>2*20@0");
+        c.due("one HIDDEN is enough", c.x.pays(1, 1, 1), 10);
+        c.x.hide(1, 1);
+        c.due("than if nothing was HIDDEN", c.x.pays(1, 0, 1), 0);
         c.fresh("50,0;45,50;0,0;d0>2*20@0");
         c.due("less", c.x.pays(1, 30, 1), -10);
         c.due("who owes it", c.x.pays(0, 10, 1), 0);

@@ -89,7 +89,9 @@ public final class KeptTest {
         for (int i = 5; i >= 0; i--) {
             c.due("back", c.x.back(), i);
         }
-        c.x.lend(0, 1, 1);
+        for (int i = 1; i <= 6; i++) {
+            c.due("otherwise", c.x.lend(0, 1, 1), i);
+        }
         c.due("again", c.x.again(1), true);
         c.due("six", c.x.count(4), 6);
         for (int i = 5; i >= 0; i--) {

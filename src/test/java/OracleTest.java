@@ -14,11 +14,13 @@ public final class OracleTest {
     private final Oracle o = new Oracle();
     private final StringBuilder told = new StringBuilder();
     private final boolean isLarge;
+    private final boolean isCut;
     private int made;
 
     private OracleTest(long run) {
         random = new Random(run * 7919 + 3);
         isLarge = run % 17 == 0;
+        isCut = run % 11 == 5;
     }
 
     public static void main(String[] args) {
@@ -45,7 +47,31 @@ public final class OracleTest {
         return random.nextInt(100) < of100;
     }
 
+    /** PRICES that are cut differ for one and the same state: ties and the least row are hard there. */
+    private void cutPrices() {
+        StringBuilder b = new StringBuilder("99,0;0,0");
+        int payers = 2 + upTo(1);
+        for (int i = 0; i < payers; i++) {
+            b.append(";").append(3 + upTo(5)).append(",").append(10 + upTo(50));
+        }
+        due(4, told(b), x.town(), o.town());
+        b.setLength(0);
+        for (int i = 4 + upTo(3); i > 0; i--) {
+            b.append(b.length() > 0 ? ";" : "").append("d0>1*").append(1 + upTo(2)).append("@0");
+        }
+        due(4, told(b), x.town(), o.town());
+        due(27, "all(0)", x.all(0), o.all(0));
+        checkRow();
+        due(29, "ways(0)", x.ways(0), o.ways(0));
+        due(31, "fewest(0)", x.fewest(0), o.fewest(0));
+        checkRow();
+    }
+
     private void run() {
+        if (isCut) {
+            cutPrices();
+            return;
+        }
         town(isLarge ? 5 + upTo(3) : 1 + upTo(5), isLarge ? 5 + upTo(5) : 0, isLarge);
         town(0, isLarge ? 0 : 1 + upTo(5), false);
         if (isLarge) {

@@ -8,6 +8,7 @@ public final class PaymentsTest {
     public static void main(String[] args) {
         PaymentsTest test = new PaymentsTest();
         test.below();
+        test.belowByOne();
         test.belowByList();
         test.may();
         test.mayByLaw();
@@ -55,6 +56,19 @@ public final class PaymentsTest {
         belows("has less by 0", 16, 21, 19, 23, 0);
         c.due("none such", c.x.below(-1), -1);
         c.due("none such", c.x.below(5), -1);
+    }
+
+    private void belowByOne() {
+        c.fresh("10,0;11,0;12,0");
+        belows("has less", 0, 1, 3);
+        c.x.law(0, 1);
+        belows("has next less", 0, 1, 2);
+        c.x.law(0, 2);
+        belows("has more", 6, 4, 0);
+        c.x.law(0, 3);
+        belows("has less by 1", 0, 1, 3);
+        c.x.law(1, 2);
+        belows("has less by 2", 0, 0, 1);
     }
 
     private void belowByList() {
@@ -454,6 +468,9 @@ public final class PaymentsTest {
         c.fresh("10,0;20,0;20,0;8,0;d0>3*5@0");
         c.due("14 is less than 16", c.x.gift(0), 6);
         c.row("the first of equal ones", 1, 2);
+        c.fresh("20,0;10,0;20,0;8,0;d1>3*5@0");
+        c.due("of equal ones 0 is first", c.x.gift(0), 6);
+        c.row("from 0, who may pay itself", 0, 1);
         c.fresh("10,0;20,0;20,0;50,0;d0>3*15@0");
         c.due("14 is not enough: the other one pays", c.x.gift(0), 11);
         c.row("from one, by the other one", 1, 4);

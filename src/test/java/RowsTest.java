@@ -21,6 +21,7 @@ public final class RowsTest {
         test.ways();
         test.ahead();
         test.fewest();
+        test.fewestWithWhoGets();
         test.fewestOfMany();
         test.sorts();
         test.threeThousand();
@@ -207,6 +208,22 @@ public final class RowsTest {
         c.due("who has more", c.x.ways(0), 8);
         c.x.days(1);
         c.due("PAID", c.x.ways(0), 1);
+        c.fresh("9,0;8,0;0,0;d0>2*8@0;d1>2*1@0");
+        c.due("one of two", c.x.never(0), 2);
+        c.x.hide(0, 1);
+        c.due("0 has 8 COUNTED", c.x.never(0), 3);
+        c.x.hide(0, 0);
+        c.x.law(0, 2);
+        c.due("0 has more", c.x.never(0), 1);
+        c.x.pay(0, 1);
+        c.x.law(0, 0);
+        c.due("0 has 8", c.x.never(0), 1);
+        c.x.give(2, 0, 1);
+        c.due("1 can pay", c.x.never(0), 0);
+        c.x.pay(1, 0);
+        c.due("all PAID", c.x.ways(0), 1);
+        c.x.undo();
+        c.due("OPEN", c.x.ways(0) + c.x.never(0) + c.x.most(0), 2);
     }
 
     private void never() {
@@ -271,6 +288,22 @@ public final class RowsTest {
         c.x.hide(1, 6);
         c.due("they can't", c.x.fewest(0), -2);
         c.due("the ROW stays", c.x.count(6), 4);
+    }
+
+    private void fewestWithWhoGets() {
+        c.fresh("30,0;40,0;9,0;0,0;3,0;d1>3*20@0;d1>4*10@0");
+        c.due("0 pays both", c.x.fewest(0), 1);
+        c.row("0", 1);
+        c.due("0, 0; or 0, 3", c.x.ways(0), 3);
+        c.row("1, 2 and 4 never", 22);
+        c.x.hide(0, 10);
+        c.due("4 gets 10 too late, 3 gets 20 in time", c.x.fewest(0), 2);
+        c.row("0 and 3", 9);
+        c.due("0, then 3", c.x.ways(0), 1);
+        c.row("1, 2 and 4 never", 22);
+        c.fresh("0,0;0,0;0,0;90,0;5,0;0,0;d3>0*4@0;d3>0*2@0");
+        c.due("4 has 5", c.x.most(0), 1);
+        c.due("not 6", c.x.fewest(0), -2);
     }
 
     private void fewestOfMany() {

@@ -283,6 +283,10 @@ public final class TownTest {
         worth("0-1", -2, 0, 0);
         worth("-i", -2, 0, 0);
         worth("", 1, 0, 0);
+        c.fresh("5,0;9,0;0,0;d0>1*3@0;d1>2*4@0");
+        c.rule("g*7+c");
+        c.due("0 is WILLING", c.x.willing(1), 0);
+        c.row("it owes 1", 12);
     }
 
     private void badRule(String text, int p) {
@@ -358,6 +362,13 @@ public final class TownTest {
         }
         c.x.law(2, 1);
         c.due("THE LIST as COIN came", c.x.of(2, 4), 100);
+        c.fresh("9,10;5,0;0,0;d1>0*3@0;d1>0*4@0;d2>1*1@0");
+        c.due("it is owed both", c.x.of(0, 6), 7);
+        c.due("it owes both", c.x.of(1, 5), 7);
+        c.x.law(0, 2);
+        c.due("0 pays for 2", c.x.pay(0, 2), 1);
+        c.due("FAVOURS 0 is owed", c.x.of(0, 8), 1);
+        c.due("FAVOURS 2 owes", c.x.of(2, 7), 1);
         c.none("nobody", () -> c.x.of(-1, 0));
         c.none("nobody", () -> c.x.of(4, 0));
         c.none("another what", () -> c.x.of(0, -1));
