@@ -224,6 +224,10 @@ public final class RowsTest {
         c.due("all PAID", c.x.ways(0), 1);
         c.x.undo();
         c.due("OPEN", c.x.ways(0) + c.x.never(0) + c.x.most(0), 2);
+        c.fresh("9,0;5,0;0,0;d0>2*50@0");
+        c.due("never", c.x.never(0), 1);
+        c.x.days(1);
+        c.due("LAPSED", c.x.never(0), 0);
     }
 
     private void never() {
