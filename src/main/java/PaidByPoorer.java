@@ -164,10 +164,10 @@ public final class PaidByPoorer {
         if (n < 0 && !isMissing) {
             return NOT;
         }
-        int told = isMissing ? 0 : n;
+        int entries = isMissing ? 0 : n;
         int sum = 0;
         for (int i = 0; i < now.people; i++) {
-            now.coin[i] = i < told ? entry(kind, f + i * step) : 0;
+            now.coin[i] = i < entries ? entry(kind, f + i * step) : 0;
             now.hidden[i] = 0;
             sum += now.coin[i];
         }
@@ -490,6 +490,7 @@ public final class PaidByPoorer {
         if (!isDay(day)) {
             return NONE;
         }
+        // four bits for each sort, as the ROW stays if a later one has too many states
         int mosts = 0;
         int first = 0;
         int greatest = -1;
