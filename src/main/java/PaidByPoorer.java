@@ -1656,9 +1656,9 @@ public final class PaidByPoorer {
                 lows += part(i, 0, town.coin[i]);
                 highs += part(i, 1, town.coin[i]);
             }
-            int first = find(0, lows, highs);
-            ways[first] = 1;
-            prices[first] = 0;
+            find(0, lows, highs);
+            ways[0] = 1;
+            prices[0] = 0;
         }
 
         /** So much coin of one, where it stands in the low (0) or the high (1) half of all COIN. */
@@ -1712,8 +1712,6 @@ public final class PaidByPoorer {
                 rows[next] = row;
             }
         }
-
-    
 
         private int rank(int person, int debt) {
             return person - (town.owes[debt] < person ? 1 : 0) - (town.gets[debt] < person ? 1 : 0);
