@@ -1,8 +1,15 @@
+import java.nio.charset.StandardCharsets;
+import java.nio.file.Files;
+import java.nio.file.Path;
+
 /** What the tests share: one object under test, texts told to it, and answers held against those that are due. */
 final class Check {
     private final String name;
     private int checks;
     private int wrong;
+    private int sentences;
+    private String sentence = "";
+    private String document;
 
     PaidByPoorer x;
 
@@ -19,6 +26,25 @@ final class Check {
     void fresh(String town) {
         fresh();
         due("town " + town, town(town), town.split(";").length);
+    }
+
+    /** What follows, on a new object, holds these words of the document. */
+    void says(String words) {
+        sentence = " (" + words + ")";
+        sentences++;
+        due("words of the document", document().contains(words), true);
+        fresh();
+    }
+
+    private String document() {
+        if (document == null) {
+            try {
+                document = Files.readString(Path.of("../shared/DOC.md"), StandardCharsets.ISO_8859_1).replaceAll("\\s+", " ");
+            } catch (java.io.IOException e) {
+                throw new IllegalStateException(e);
+            }
+        }
+        return document;
     }
 
     /** Tells a text, whatever stands there already, four signs at a time, and cuts what is too much. */
@@ -49,7 +75,7 @@ final class Check {
         if (got != want) {
             wrong++;
             if (wrong <= 40) {
-                System.out.println(name + ": " + what + " answered " + got + ", due is " + want);
+                System.out.println(name + sentence + ": " + what + " answered " + got + ", due is " + want);
             }
         }
     }
@@ -81,8 +107,63 @@ final class Check {
         due(what + " throws", thrown, 1);
     }
 
+    /** All that can be seen of the object by calls that change nothing, or what is put back at once. */
+    String seen() {
+        StringBuilder b = new StringBuilder("ROW");
+        int people = x.count(0);
+        int debts = x.count(1);
+        int numbers = x.count(6);
+        for (int i = 0; i < numbers; i++) {
+            b.append(' ').append(x.row(i));
+        }
+        for (int what = 0; what < 4; what++) {
+            int law = x.law(what, 0);
+            x.law(what, law);
+            b.append(" LAW ").append(law);
+        }
+        int counted = x.law(2, 1);
+        for (int i = 0; i < people; i++) {
+            b.append(" noon ").append(x.of(i, 4));
+        }
+        x.law(2, counted);
+        for (int i = 0; i < people; i++) {
+            b.append(" person");
+            for (int what = 0; what < 9; what++) {
+                b.append(' ').append(x.of(i, what));
+            }
+            for (int k = 0; k < people; k++) {
+                b.append(' ').append(x.favour(i, k));
+            }
+        }
+        for (int i = 0; i < debts; i++) {
+            b.append(" debt");
+            for (int what = 0; what < 6; what++) {
+                b.append(' ').append(x.debt(i, what));
+            }
+        }
+        b.append(" counts");
+        for (int what = 0; what < 8; what++) {
+            b.append(' ').append(x.count(what));
+        }
+        int r = x.seed(0);
+        x.seed(r);
+        return b.append(" R ").append(r).append(" TODAY ").append(x.today()).toString();
+    }
+
+    /** The call answers so, and leaves all that can be seen as it was. */
+    void changesNothing(String what, Call call, long want) {
+        String was = seen();
+        due(what, call.made(), want);
+        String is = seen();
+        due(what + " changes nothing", is.equals(was), true);
+        if (!is.equals(was)) {
+            System.out.println("  was " + was + "\n  is  " + is);
+        }
+    }
+
     void finish() {
-        System.out.println(name + ": " + checks + " checks, " + wrong + " wrong");
+        System.out.println(name + ": " + (sentences > 0 ? sentences + " sentences, " : "") + checks + " checks, " + wrong
+            + " wrong");
         if (wrong > 0) {
             System.exit(1);
         }
