@@ -8,6 +8,8 @@ import java.util.NoSuchElementException;
 public final class PaidByPoorer {
     public static final int NONE = -1;
 
+    private static final int GREATEST = 0x7FFFFFFF;
+    private static final int LEAST = -GREATEST - 1;
     private static final int NOT = -2;
     private static final int AMISS = -3;
     private static final int MOST_PEOPLE = 8;
@@ -238,7 +240,7 @@ public final class PaidByPoorer {
     }
 
     private void tellCheapest(int payers, int debt) {
-        int least = Integer.MAX_VALUE;
+        int least = GREATEST;
         int first = 0;
         for (int i = 0; i < now.people; i++) {
             if ((payers & 1 << i) != 0 && now.price(i, debt) < least) {
@@ -945,13 +947,13 @@ public final class PaidByPoorer {
 
         int belowBits(int person) {
             int height = list[person];
-            int from = Integer.MIN_VALUE;
+            int from = LEAST;
             int to = height - 1;
             if (laws[SORT] == 1) {
                 from = greatestUnder(height);
             } else if (laws[SORT] == 2) {
                 from = height + 1;
-                to = Integer.MAX_VALUE;
+                to = GREATEST;
             } else if (laws[SORT] == 3) {
                 to = height - laws[BY];
             }
@@ -965,7 +967,7 @@ public final class PaidByPoorer {
         }
 
         private int greatestUnder(int height) {
-            int greatest = Integer.MIN_VALUE;
+            int greatest = LEAST;
             for (int i = 0; i < people; i++) {
                 if (list[i] < height && list[i] > greatest) {
                     greatest = list[i];
@@ -1635,7 +1637,7 @@ public final class PaidByPoorer {
             due = day;
             these = town.openDueBy(day);
             start();
-            for (int i = 0; i < size && !isTooMany; i++) {
+            for (int i = 0; i < LIMIT && i < size && !isTooMany; i++) {
                 load(i);
                 leave(i);
             }
@@ -1745,7 +1747,7 @@ public final class PaidByPoorer {
             low[state] = lows;
             high[state] = highs;
             ways[state] = 0;
-            prices[state] = Integer.MAX_VALUE;
+            prices[state] = GREATEST;
             rows[state] = 0;
             return state;
         }
@@ -1906,7 +1908,7 @@ public final class PaidByPoorer {
          */
         int leastBar() {
             int best = 0;
-            int least = Integer.MAX_VALUE;
+            int least = GREATEST;
             for (int set = 0; set <= town.everybody(); set++) {
                 int bar = countedOf(set) + sumsBehind(set);
                 if (bar < least) {

@@ -27,6 +27,7 @@ public final class DaysBoundsTest {
         dueOrWere();
         byDueThenNumber();
         lapsesLate();
+        atFirst();
         oneMore();
     }
 
@@ -135,9 +136,17 @@ public final class DaysBoundsTest {
         c.due("more than LATE", c.x.debt(0, 4), 2);
     }
 
+    private void atFirst() {
+        c.says("TODAY: a DAY, at first 0");
+        c.due("at first", c.x.today(), 0);
+        c.fresh(FOUR);
+        c.due("with a town", c.x.today(), 0);
+        c.x.noon();
+        c.due("behind noon()", c.x.today(), 0);
+    }
+
     private void oneMore() {
         c.says("then TODAY is 1 more");
-        c.due("at first", c.x.today(), 0);
         c.x.days(1);
         c.due("1", c.x.today(), 1);
         c.x.days(0);
@@ -244,6 +253,7 @@ public final class DaysBoundsTest {
         full();
         c.due("undo", c.x.undo(), 0);
         c.changesNothing("undo of none", () -> c.x.undo(), -1);
+        full();
         c.due("back", c.x.back(), 0);
         c.changesNothing("back of none", () -> c.x.back(), -1);
     }

@@ -263,7 +263,7 @@ public final class PaymentsBoundsTest {
     }
 
     private void hideRefused() {
-        c.says("what it was. Refused: others. ## Promise 12");
+        c.says("(0 .. its COIN): what it was. Refused: others.");
         c.fresh("10,0;0,0");
         c.x.hide(0, 3);
         c.due("more", c.x.hide(0, 11), -1);
@@ -398,6 +398,7 @@ public final class PaymentsBoundsTest {
     // ---- promises 14 to 16, and what a PAYMENT is
 
     private void paying() {
+        ofOpenDebt();
         neitherOwesNorGets();
         countedEnough();
         prices();
@@ -421,6 +422,20 @@ public final class PaymentsBoundsTest {
         c.due("2 alone, though one has as much as itself", c.x.may(0), 4);
         c.due("who owes it", c.x.pay(0, 0), -2);
         c.due("2", c.x.pay(2, 0), 10);
+    }
+
+    private void ofOpenDebt() {
+        c.says("A PAYMENT of an OPEN DEBT");
+        c.fresh("90,0;80,0;70,0;0,0;d0>3*10@0;d0>3*99@0");
+        c.due("OPEN", c.x.pay(1, 0), 10);
+        c.due("PAID", c.x.pay(2, 0), -2);
+        c.due("PAID", c.x.pay(1, 0), -2);
+        c.due("PAID", c.x.may(0), 0);
+        c.x.days(1);
+        c.x.give(0, 1, 30);
+        c.x.law(0, 2);
+        c.due("LAPSED", c.x.may(1), 0);
+        c.due("LAPSED", c.x.pay(1, 1), -2);
     }
 
     private void countedEnough() {
@@ -514,7 +529,7 @@ public final class PaymentsBoundsTest {
     }
 
     private void payMayNot() {
-        c.says("One pays a DEBT: PRICE. -2: it may not; NONE: none such.");
+        c.says("One pays a DEBT: PRICE. -2: it may not");
         c.fresh(FIVE);
         c.due("not BELOW", c.x.pay(3, 1), -2);
         c.due("who owes it", c.x.pay(3, 0), -2);
@@ -532,7 +547,7 @@ public final class PaymentsBoundsTest {
     }
 
     private void payNone() {
-        c.says("-2: it may not; NONE: none such. ## Promise 17");
+        c.says("-2: it may not; NONE: none such.");
         c.fresh(FIVE);
         c.due("person 5", c.x.pay(5, 0), -1);
         c.due("person -1", c.x.pay(-1, 0), -1);
@@ -700,7 +715,7 @@ public final class PaymentsBoundsTest {
     }
 
     private void judgeNone() {
-        c.says("Nothing changes. NONE: another n. ## Promise 19");
+        c.says("of SUMS till then. Nothing changes. NONE: another n.");
         c.fresh(FIVE);
         c.x.spread();
         for (int n : new int[] {Integer.MIN_VALUE, -1, 5, Integer.MAX_VALUE}) {
@@ -852,6 +867,13 @@ public final class PaymentsBoundsTest {
         c.x.hide(1, 0);
         c.due("5", c.x.back(), 0);
         coins("as told", 10, 0, 0);
+        c.fresh("60,0;10,0;0,0;d0>2*20@0");
+        c.x.lend(0, 1, 15);
+        c.due("pays with what is lent", c.x.pay(1, 0), 20);
+        c.changesNothing("5 of 15", () -> c.x.back(), -2);
+        c.due("the PAYMENT can be undone", c.x.undo(), 0);
+        c.due("25 of 15", c.x.back(), 0);
+        coins("as told", 60, 10, 0);
     }
 
     private void backNothing() {

@@ -214,6 +214,7 @@ public final class RowsBoundsTest {
 
     private void alls() {
         allLeastRow();
+        allFromTheFirst();
         allTold();
         allTen();
         allCant();
@@ -243,6 +244,19 @@ public final class RowsBoundsTest {
         c.fresh("99,9;8,50;3,32;5,3;d0>3*2@0;d3>0*1@0;d0>3*1@0");
         c.due("2, 1 and 1", c.x.all(0), 4);
         c.row("of several states", 2, 12, 21);
+    }
+
+    private void allFromTheFirst() {
+        c.says("Rows of numbers are compared from the first on.");
+        c.fresh("99,0;6,0;6,0;0,0;d0>3*6@0;d0>3*5@0");
+        c.due("11", c.x.all(0), 11);
+        c.row("1, 12 rather than 2, 11", 1, 12);
+        c.fresh("99,0;6,0;5,0;0,0;d0>3*5@0;d0>3*6@0");
+        c.due("11", c.x.all(0), 11);
+        c.row("2, 11 rather than 11, 2", 2, 11);
+        c.fresh("99,0;9,0;9,0;9,0;0,0;d0>4*9@0;d0>4*9@0;d0>4*9@0");
+        c.due("27", c.x.all(0), 27);
+        c.row("1, 12, 23", 1, 12, 23);
     }
 
     private void allTold() {
@@ -293,7 +307,7 @@ public final class RowsBoundsTest {
     }
 
     private void allNone() {
-        c.says("they can't all be; -3; NONE as most(). ## Promise 28");
+        c.says("they can't all be; -3; NONE as most().");
         c.fresh(TWO_PAY);
         noneOfDays(day -> c.x.all(day));
     }

@@ -24,6 +24,7 @@ public final class TownBoundsTest {
         asks();
         kind();
         hidden();
+        counted();
         tenDebts();
         toAnother();
         sums();
@@ -84,6 +85,18 @@ public final class TownBoundsTest {
         c.due("COIN", c.x.of(0, 0), 10);
         c.due("nothing of nothing", c.x.hide(1, 0), 0);
         c.due("something of nothing", c.x.hide(1, 1), -1);
+    }
+
+    private void counted() {
+        c.says("COUNTED is COIN less HIDDEN");
+        c.fresh("10,0;0,0");
+        c.due("nothing HIDDEN", c.x.of(0, 4), 10);
+        c.x.hide(0, 1);
+        c.due("1", c.x.of(0, 4), 9);
+        c.x.hide(0, 10);
+        c.due("all", c.x.of(0, 4), 0);
+        c.due("of nothing", c.x.of(1, 4), 0);
+        c.due("COIN stays", c.x.of(0, 0), 10);
     }
 
     private void tenDebts() {
