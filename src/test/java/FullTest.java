@@ -47,6 +47,12 @@ public final class FullTest {
         c.row("to who owes it", 7);
         c.due("poorer", c.x.poorer(1, 0), 31);
         c.due("poorer who owes it", c.x.poorer(7, 0), -2);
+        c.rule("g");
+        c.due("7 owes nothing to 6", c.x.willing(9), 7);
+        c.row("0", 0);
+        c.rule("o");
+        c.due("7 owes 9", c.x.willing(9), 7);
+        c.row("9", 9);
         c.x.law(2, 1);
         c.due("no gift", c.x.gift(0), -2);
         c.due("none poorer", c.x.poorer(6, 0), -2);

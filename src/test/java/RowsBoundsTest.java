@@ -164,6 +164,10 @@ public final class RowsBoundsTest {
         c.rule("0-1");
         now("noon", 11, () -> c.x.noon());
         now("a DAY on which they LAPSE", 1, () -> c.x.days(1));
+        c.fresh("9,0;5,0;0,0;d0>2*50@0");
+        c.due("never", c.x.never(0), 1);
+        c.x.days(1);
+        c.due("LAPSED, all else as it was", c.x.never(0), 0);
     }
 
     // ---- promise 26

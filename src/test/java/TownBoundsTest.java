@@ -458,6 +458,9 @@ public final class TownBoundsTest {
         c.rule("2-g");
         c.due("0 owes none", c.x.willing(1), 0);
         c.row("2", 2);
+        c.due("a town that can't be", c.town("d0>1*3@9;d"), -11);
+        c.due("0 owes none", c.x.willing(1), 0);
+        c.row("2", 2);
     }
 
     private void asInts() {
