@@ -86,6 +86,10 @@ final class Check {
         due(what, got ? 1 : 0, want ? 1 : 0);
     }
 
+    void due(String what, String got, String want) {
+        due(what + " (" + got + ", not " + want + ")", got.equals(want), true);
+    }
+
     /** The ROW has these numbers, and no more. */
     void row(String what, long... want) {
         due(what + ": numbers of the ROW", x.count(6), want.length);
